@@ -22,6 +22,7 @@ public final class HowFarShesGot {
     private static final int BED = 4;
     private static final int ROAD = 5;
     private static final int KINDS = 6;
+    private static final int BED_STEPS = 2;
 
     private static final int FIRST = 0;
     private static final int NEAR = 1;
@@ -44,6 +45,7 @@ public final class HowFarShesGot {
     private static final int LOOKS_TRIED = 200;
     private static final int LAST_FACTOR = 9;
     private static final int LAST_NUMBER = 99;
+    private static final int ROW_NUMBERS = 12;
     private static final int WAY_STEPS = 20;
     private static final int TURNING_STEPS = 99;
     private static final int WALKS = 20;
@@ -56,7 +58,7 @@ public final class HowFarShesGot {
     private final Garden draft = new Garden();
     private final Garden image = new Garden();
     private final Telling telling = new Telling();
-    private final Row row = new Row();
+    private final Numbers row = new Numbers(ROW_NUMBERS);
     private final Wave wave = new Wave();
     private final Hunt hunt = new Hunt();
     private final Chances chances = new Chances();
@@ -71,16 +73,16 @@ public final class HowFarShesGot {
         if (c < 0) {
             return refused(BELOW);
         }
-        if (c > LAST_LETTER || telling.isFull()) {
+        if (c > LAST_LETTER || telling.letters.isFull()) {
             return refused(ROOM);
         }
-        return telling.add(c);
+        return telling.letters.add(c);
     }
 
     public int garden() {
         draft.become(garden);
         int answer = telling.tellTo(draft);
-        telling.clear();
+        telling.letters.clear();
         if (answer > 0) {
             garden.become(draft);
         }
@@ -260,10 +262,10 @@ public final class HowFarShesGot {
         if (what < 0 || what > 2) {
             return refused(OTHER);
         }
-        if (!row.allSquares(1)) {
+        if (!rowTellsSquares(1)) {
             return refused(STATE);
         }
-        long held = row.squares();
+        long held = squaresOfRow();
         switch (what) {
             case 0: return yesOrNo((reachedWhenHeld(held) & garden.squaresOf(ROAD)) != 0);
             case 1: return Long.bitCount(reachedWhenHeld(held));
@@ -321,7 +323,7 @@ public final class HowFarShesGot {
         if (what < 0 || what > 2) {
             return refused(OTHER);
         }
-        if (row.size % 2 != 0 || !row.allSquares(2)) {
+        if (row.size % 2 != 0 || !rowTellsSquares(2)) {
             return refused(STATE);
         }
         if (what == 0) {
@@ -348,10 +350,10 @@ public final class HowFarShesGot {
         }
         hunt.begin(garden, reachedBy(t), t);
         for (int i = 0; i < row.size; i++) {
-            if (!has(hunt.set, row.numberAt(i))) {
+            if (!has(hunt.set, row.at(i))) {
                 return i;
             }
-            hunt.look(garden, row.numberAt(i));
+            hunt.look(garden, row.at(i));
         }
         return NONE;
     }
@@ -363,7 +365,7 @@ public final class HowFarShesGot {
         }
         hunt.begin(garden, reachedBy(t), t);
         for (int i = 0; i < row.size; i++) {
-            hunt.look(garden, row.numberAt(i));
+            hunt.look(garden, row.at(i));
         }
         row.clear();
         return Long.bitCount(hunt.set);
@@ -410,7 +412,7 @@ public final class HowFarShesGot {
             case 5: return Long.bitCount(garden.squaresOf(GAP));
             case 6: return Long.bitCount(garden.squaresOf(ROAD));
             case 7: return row.size;
-            case 8: return telling.size;
+            case 8: return telling.letters.size;
             default: return refusalsOf(10 - what);
         }
     }
@@ -575,6 +577,26 @@ public final class HowFarShesGot {
         return NONE;
     }
 
+    // The row
+
+    /** Whether every number of the row, or every second one from the first on, tells a square. */
+    private boolean rowTellsSquares(int apart) {
+        for (int i = 0; i < row.size; i += Math.max(1, apart)) {
+            if (!isSquare(row.at(i))) {
+                return false;
+            }
+        }
+        return true;
+    }
+
+    private long squaresOfRow() {
+        long set = 0;
+        for (int i = 0; i < row.size; i++) {
+            set |= bit(row.at(i));
+        }
+        return set;
+    }
+
     // Habits, traces and lots
 
     private long afterTurning(int facing, int n) {
@@ -596,8 +618,8 @@ public final class HowFarShesGot {
         int at = home;
         int minute = 0;
         for (int pair = 0; 2 * pair + 1 < row.size; pair++) {
-            int square = row.numberAt(2 * pair);
-            int then = row.numberAt(2 * pair + 1);
+            int square = row.at(2 * pair);
+            int then = row.at(2 * pair + 1);
             wave.spread(garden, at, 0);
             int steps = wave.stepsTo(bit(square));
             if (steps < 0 || steps * garden.pace > then - minute) {
@@ -735,7 +757,7 @@ public final class HowFarShesGot {
                 case HEDGE: return 0;
                 case ROAD: return 0;
                 case SUN: return stepsOffSun();
-                case BED: return 2;
+                case BED: return BED_STEPS;
                 default: return 1;
             }
         }
@@ -823,28 +845,7 @@ public final class HowFarShesGot {
         private static final String KIND_LETTERS = "lhgsbr";
         private static final String SEEKER_LETTERS = "fnmea";
 
-        private final int[] letters = new int[LETTERS];
-        private int size;
-
-        private boolean isFull() {
-            return size >= LETTERS;
-        }
-
-        private int add(int letter) {
-            if (size >= 0 && size < letters.length) {
-                letters[size] = letter;
-                size++;
-            }
-            return size;
-        }
-
-        private void clear() {
-            size = 0;
-        }
-
-        private int letterAt(int place) {
-            return place >= 0 && place < size && place < letters.length ? letters[place] : 0;
-        }
+        private final Numbers letters = new Numbers(LETTERS);
 
         /** How many statements came into the draft; or the fault, and the draft is spoilt. */
         private int tellTo(Garden draft) {
@@ -854,12 +855,12 @@ public final class HowFarShesGot {
             }
             int statements = 0;
             int place = 0;
-            while (place < size && statements < LETTERS) {
+            while (place < letters.size && statements < LETTERS) {
                 if (!comes(draft, place)) {
                     return NOT_AS_IT_MUST_BE - place;
                 }
                 statements++;
-                place += 1 + shapeBehind(letterAt(place)).length();
+                place += 1 + shapeBehind(letters.at(place)).length();
             }
             return statements;
         }
@@ -867,8 +868,8 @@ public final class HowFarShesGot {
         private int firstMisfit() {
             String shape = "";
             int done = 0;
-            for (int place = 0; place < size; place++) {
-                int letter = letterAt(place);
+            for (int place = 0; place < letters.size; place++) {
+                int letter = letters.at(place);
                 if (done < shape.length()) {
                     if (!fits(letter, shape.charAt(done))) {
                         return place;
@@ -882,7 +883,7 @@ public final class HowFarShesGot {
                     }
                 }
             }
-            return size > 0 && done == shape.length() ? -1 : size;
+            return letters.size > 0 && done == shape.length() ? -1 : letters.size;
         }
 
         /** What comes behind a statement's first letter: K, S kinds of squares, seekers, D a digit. */
@@ -908,8 +909,8 @@ public final class HowFarShesGot {
         }
 
         private boolean comes(Garden draft, int place) {
-            int kind = letterAt(place + 1);
-            switch (letterAt(place)) {
+            int kind = letters.at(place + 1);
+            switch (letters.at(place)) {
                 case 'k':
                     return draft.lay(KIND_LETTERS.indexOf((char) kind), pairAt(place + 2), pairAt(place + 2));
                 case 'v':
@@ -928,7 +929,7 @@ public final class HowFarShesGot {
         }
 
         private int digitAt(int place) {
-            return letterAt(place) - '0';
+            return letters.at(place) - '0';
         }
 
         private int pairAt(int place) {
@@ -936,15 +937,17 @@ public final class HowFarShesGot {
         }
     }
 
-    /** The row of numbers that held squares, traces or looks are told by. */
-    private static final class Row {
-        private static final int NUMBERS = 12;
-
-        private final int[] numbers = new int[NUMBERS];
+    /** Numbers as they come, up to a limit. */
+    private static final class Numbers {
+        private final int[] numbers;
         private int size;
 
+        private Numbers(int most) {
+            numbers = new int[Math.max(0, most)];
+        }
+
         private boolean isFull() {
-            return size >= NUMBERS;
+            return size >= numbers.length;
         }
 
         private int add(int number) {
@@ -959,26 +962,8 @@ public final class HowFarShesGot {
             size = 0;
         }
 
-        private int numberAt(int i) {
+        private int at(int i) {
             return i >= 0 && i < size && i < numbers.length ? numbers[i] : NONE;
-        }
-
-        /** Whether every number, or every other one from the first on, tells a square. */
-        private boolean allSquares(int apart) {
-            for (int i = 0; i < size; i += Math.max(1, apart)) {
-                if (!isSquare(numberAt(i))) {
-                    return false;
-                }
-            }
-            return true;
-        }
-
-        private long squares() {
-            long set = 0;
-            for (int i = 0; i < size; i++) {
-                set |= bit(numberAt(i));
-            }
-            return set;
         }
     }
 
@@ -1001,8 +986,10 @@ public final class HowFarShesGot {
             size = 1;
             int last = 0;
             for (int step = 1; step < layers.length && step - last <= MOST_STEPS_OFF; step++) {
-                long left = layer(step - 1) & others | layer(step - 2) & beds | layer(step - sunSteps) & suns;
-                long fresh = beside(left) & open & ~reached;
+                long leaving = layer(step - 1) & others;
+                leaving |= layer(step - BED_STEPS) & beds;
+                leaving |= layer(step - sunSteps) & suns;
+                long fresh = beside(leaving) & open & ~reached;
                 layers[step] = fresh;
                 size = step + 1;
                 reached |= fresh;
@@ -1036,7 +1023,7 @@ public final class HowFarShesGot {
     private static final class Hunt {
         private static final int FARTHEST = 2 * (SIDE - 1);
 
-        private final int[] stands = new int[Garden.SEEKERS];
+        private final long[] stands = new long[Garden.SEEKERS];
         private long set;
         private int minute;
 
@@ -1044,7 +1031,7 @@ public final class HowFarShesGot {
             set = squares;
             minute = t;
             for (int seeker = 0; seeker < stands.length; seeker++) {
-                stands[seeker] = garden.squareOfSeeker(seeker);
+                stands[seeker] = bit(garden.squareOfSeeker(seeker));
             }
         }
 
@@ -1061,7 +1048,7 @@ public final class HowFarShesGot {
             look(garden, square);
             boolean walks = kind == NEAR || kind == AHEAD;
             if (walks && isSquare(square) && seeker >= 0 && seeker < stands.length) {
-                stands[seeker] = square;
+                stands[seeker] = bit(square);
             }
         }
 
@@ -1070,17 +1057,17 @@ public final class HowFarShesGot {
                 case NEAR: return nearest(standOf(seeker));
                 case MOST: return withMostBeside();
                 case EDGE: return withFewestBeside();
-                case AHEAD: return nearestToRoads(garden.squaresOf(ROAD), seeker);
+                case AHEAD: return nearest(goalAhead(garden.squaresOf(ROAD), seeker));
                 default: return least(set);
             }
         }
 
         private long standOf(int seeker) {
-            return seeker >= 0 && seeker < stands.length ? bit(stands[seeker]) : 0;
+            return seeker >= 0 && seeker < stands.length ? stands[seeker] : 0;
         }
 
-        private int nearestToRoads(long roads, int seeker) {
-            return nearest(roads != 0 ? roads : standOf(seeker));
+        private long goalAhead(long roads, int seeker) {
+            return roads != 0 ? roads : standOf(seeker);
         }
 
         private int nearest(long from) {
@@ -1095,7 +1082,7 @@ public final class HowFarShesGot {
             int best = least(set);
             int most = 0;
             for (int square = 0; square < SQUARES; square++) {
-                int near = besideInSet(square);
+                int near = Long.bitCount(beside(1L << square & set) & set);
                 if (near > most) {
                     most = near;
                     best = square;
@@ -1108,17 +1095,13 @@ public final class HowFarShesGot {
             int best = least(set);
             int fewest = DIRECTIONS + 1;
             for (int square = 0; square < SQUARES; square++) {
-                int near = besideInSet(square);
+                int near = Long.bitCount(beside(1L << square & set) & set);
                 if (near > 0 && near < fewest) {
                     fewest = near;
                     best = square;
                 }
             }
             return best;
-        }
-
-        private int besideInSet(int square) {
-            return has(set, square) ? Long.bitCount(beside(bit(square)) & set) : 0;
         }
     }
 

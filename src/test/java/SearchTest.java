@@ -1,7 +1,9 @@
 /** Promises 14 to 18: searches by one seeker, by the best kind and by all. */
 public final class SearchTest {
     private static final Due DUE = new Due();
-    private static final String SLOW_CROSS = "p9;";
+    /** At minute 9 she may be on 14 and the four beside it, for nine looks. */
+    private static final String CROSS = "p9;";
+    private static final String CROSS_IN_HEDGES = "p4;vh0007;vh0912;kh19;kh21;vh2435;";
 
     public static void main(String[] args) {
         promise14Search();
@@ -35,6 +37,8 @@ public final class SearchTest {
         due("a step comes in between", x.search(0, 49), 7);
         x.set(1, 1);
         due("never: she comes back behind him", x.search(0, 1), -9);
+        due("behind 200 looks", Due.garden("p7;h09;sn01;").search(0, 15), 200);
+        due("not behind 200 looks", Due.garden("p7;h09;sn09;").search(0, 21), -9);
         due("a road is not left", Due.corridor("kr01;sf00;").search(0, 3), 2);
         due("a hedge is not come onto", Due.corridor("kh02;kh01;kl02;sf00;").search(0, 99), 1);
         due("home on a road", Due.garden("kr14;sf00;").search(0, 999), 1);
@@ -90,13 +94,13 @@ public final class SearchTest {
     }
 
     private static void promise16Kinds() {
-        looks("f in a cross", SLOW_CROSS + "sf00;", 9, 8, 13, 14, 15, 20, -9);
-        looks("n in a cross", SLOW_CROSS + "sn35;", 9, 15, 14, 8, 13, 20, -9);
-        looks("m in a cross", SLOW_CROSS + "sm35;", 9, 14, 8, 13, 15, 20, -9);
-        looks("e in a cross", SLOW_CROSS + "se35;", 9, 8, 13, 15, 14, 20, -9);
-        looks("a in a cross", SLOW_CROSS + "kr30;sa05;", 9, 13, 20, 14, 8, 15, -9);
-        looks("a without roads", SLOW_CROSS + "sa35;", 9, 15, 14, 8, 13, 20, -9);
-        looks("a, two roads", SLOW_CROSS + "kr35;kr02;sa30;", 9, 8, 14, 13, 15, 20, -9);
+        looks("f in a cross", CROSS + "sf00;", 9, 8, 13, 14, 15, 20, -9);
+        looks("n in a cross", CROSS + "sn35;", 9, 15, 14, 8, 13, 20, -9);
+        looks("m in a cross", CROSS + "sm35;", 9, 14, 8, 13, 15, 20, -9);
+        looks("e in a cross", CROSS + "se35;", 9, 8, 13, 15, 14, 20, -9);
+        looks("a in a cross", CROSS + "kr30;sa05;", 9, 13, 20, 14, 8, 15, -9);
+        looks("a without roads", CROSS + "sa35;", 9, 15, 14, 8, 13, 20, -9);
+        looks("a, two roads", CROSS + "kr35;kr02;sa30;", 9, 8, 14, 13, 15, 20, -9);
         String slow = Due.CORRIDOR + "p9;";
         looks("n between", slow + "sn01;", 18, 1, 0, 2, -9);
         looks("n behind the end", slow + "sn05;", 18, 2, 1, 0, -9);
@@ -120,18 +124,18 @@ public final class SearchTest {
         due("none", Due.garden("p1;sf00;").bestSeeker(0, 999), -9);
         due("he is as he was", x.seeker(0, 0), 0);
         due("he stands as he stood", x.seeker(0, 1), 5);
-        HowFarShesGot cross = Due.garden("p4;kh07;kh09;kh19;kh21;vh0005;vh2435;kh06;kh10;kh11;kh12;sf35;");
-        due("best is by looks", cross.bestSeeker(0, 5), bestByLooks(cross, 5));
+        for (int t = 0; t < 40; t++) {
+            HowFarShesGot cross = Due.garden(CROSS_IN_HEDGES + "sf35;");
+            due("best at " + t, cross.bestSeeker(0, t), bestByLooks(t));
+        }
     }
 
     /** The first kind with the fewest looks, each asked by a seeker of that kind at the same square. */
-    private static int bestByLooks(HowFarShesGot x, int t) {
+    private static int bestByLooks(int t) {
         int best = -9;
         int fewest = 201;
         for (int kind = 0; kind < 5; kind++) {
-            HowFarShesGot y = Due.garden("p4;kh07;kh09;kh19;kh21;vh0005;vh2435;kh06;kh10;kh11;kh12;s"
-                + "fnmea".charAt(kind) + "35;");
-            int looks = y.search(0, t);
+            int looks = Due.garden(CROSS_IN_HEDGES + "s" + "fnmea".charAt(kind) + "35;").search(0, t);
             if (looks >= 0 && looks < fewest) {
                 fewest = looks;
                 best = kind;
@@ -152,6 +156,8 @@ public final class SearchTest {
         due("he stands where he stood", y.seeker(1, 1), 5);
         // NEAR from 5 looks at 1; she steps to 0 and 1; FIRST looks at 0, NEAR at 1.
         due("the first looks first", Due.corridor("sn05;sf00;").together(3), 3);
+        due("behind 200 looks of all", Due.garden("p9;h03;sm31;sf16;sn32;").together(31), 200);
+        due("not behind 200 looks of all", Due.garden("p7;h09;sf16;se28;sf24;").together(21), -9);
         // Slow: f 0, n 2, n 1, f 3: all four within nine minutes.
         due("three in turn", Due.corridor("p9;sf00;sn05;sn00;").together(27), 4);
     }

@@ -53,6 +53,8 @@ public final class WhereTest {
         due("at 1", x.mayBe(1, -1), 1);
         due("at 5", x.mayBe(5, -1), 3);
         due("at 999", x.mayBe(999, -1), 6);
+        due("0 at 5", x.mayBe(5, 0), 1);
+        due("1 at 1", x.mayBe(1, 1), 0);
         due("2 at 3", x.mayBe(3, 2), 0);
         due("2 at 4", x.mayBe(4, 2), 1);
         due("hedge", x.mayBe(999, 35), 0);
