@@ -809,7 +809,7 @@ public final class HowFarShesGot {
         }
 
         private boolean addSeeker(int kind, int square) {
-            if (seekers >= SEEKERS || !isSquare(square)) {
+            if (seekers < 0 || seekers >= SEEKERS || !isSquare(square)) {
                 return false;
             }
             seekerKinds[seekers] = kind;

@@ -38,6 +38,7 @@ public final class HoldAndWaysTest {
         due("home on a road: ever", Due.garden("kr14;").hold(1), 1);
         due("nothing to hold: the least", Due.garden("kr14;").hold(2), 0);
         due("home is no one more", Due.garden("h00;kh01;kh06;").hold(2), 1);
+        due("a held one may be one more", Due.row(Due.garden("h01;"), 0, 2, 7).hold(2), 0);
         due("of several the least", new HowFarShesGot().hold(2), 0);
         due("a middle that keeps most", Due.garden("h35;vh0011;vh1829;kl21;").hold(2), 34);
         HowFarShesGot door = Due.garden("h30;vh1823;kl20;");
