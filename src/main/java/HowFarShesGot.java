@@ -531,12 +531,13 @@ public final class HowFarShesGot {
         return flooded(held & ~bit(garden.home));
     }
 
+    // HOME is asked too: holding it changes nothing, but it may be the least of several.
     private int oneMore(long held) {
         int best = NONE;
         int fewest = SQUARES + 1;
         for (int square = 0; square < SQUARES; square++) {
             int reached = Long.bitCount(reachedWhenHeld(held | bit(square)));
-            if (square != garden.home && reached < fewest) {
+            if (reached < fewest) {
                 fewest = reached;
                 best = square;
             }

@@ -37,7 +37,12 @@ public final class HoldAndWaysTest {
         due("home on a road: out", Due.garden("kr14;").hold(0), 1);
         due("home on a road: ever", Due.garden("kr14;").hold(1), 1);
         due("nothing to hold: the least", Due.garden("kr14;").hold(2), 0);
-        due("home is no one more", Due.garden("h00;kh01;kh06;").hold(2), 1);
+        due("home alone, and the least", Due.garden("h00;kh01;kh06;").hold(2), 0);
+        HowFarShesGot alone = Due.row(Due.garden("h00;"), 1, 6);
+        due("home alone by held ones, and the least", alone.hold(2), 0);
+        due("home alone: ever", alone.hold(1), 1);
+        due("home is the least, but leaves her more", Due.corridor("").hold(2), 1);
+        due("home alone, not the least", Due.row(Due.garden("h35;"), 29, 34).hold(2), 0);
         due("a held one may be one more", Due.row(Due.garden("h01;"), 0, 2, 7).hold(2), 0);
         due("of several the least", new HowFarShesGot().hold(2), 0);
         due("a middle that keeps most", Due.garden("h35;vh0011;vh1829;kl21;").hold(2), 34);

@@ -517,7 +517,7 @@ final class PlainModel {
         for (int square = 0; square < 36; square++) {
             Set<Integer> more = new HashSet<>(held);
             more.add(square);
-            if (square != home && everBe(more) < fewest) {
+            if (everBe(more) < fewest) {
                 fewest = everBe(more);
                 best = square;
             }
