@@ -39,10 +39,15 @@ final class Due {
     }
 
     static int tell(HowFarShesGot x, String text) {
+        return letters(x, text).garden();
+    }
+
+    /** Letters that wait. */
+    static HowFarShesGot letters(HowFarShesGot x, String text) {
         for (int i = 0; i < text.length(); i++) {
             x.letter(text.charAt(i));
         }
-        return x.garden();
+        return x;
     }
 
     static HowFarShesGot row(HowFarShesGot x, int... numbers) {
