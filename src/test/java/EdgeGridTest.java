@@ -21,7 +21,8 @@ public final class EdgeGridTest {
     private static final int[] NUMBER = {LEAST, -1, 0, 1, 35, 36, 98, 99, 100, GREATEST};
     private static final int[] FACING = {LEAST, -1, 0, 1, 2, 3, 4, GREATEST};
     private static final int[] SEED = {LEAST, -1, 0, 1, GREATEST};
-    private static final int[] COUNT = {LEAST, -1, 0, 1, 2, 3, 4, 5, 6, 7, 8, 9, 10, 11, 12, 13, 14, 15, 16, 17, GREATEST};
+    private static final int[] COUNT = {
+        LEAST, -1, 0, 1, 2, 3, 4, 5, 6, 7, 8, 9, 10, 11, 12, 13, 14, 15, 16, 17, GREATEST};
     private static final int[] NOTHING = {0};
     private static final String GARDEN = "vh0005;kg07;ks08;kb09;kr35;h20;p3;w7;sn01;";
     private static final String MORE = "h21;p4;w2;sm12;kg10;kr11;";

@@ -110,33 +110,32 @@ final class HoldBounds {
     }
 
     private void ways() {
-        String words = "WAYS of n STEPS (0 .. 20; all SQUARES as LAWN, but where she can not be; a STEP is to one beside it"
-            + " or she stays; off ROADS none but staying): how many end on a SQUARE;";
-        s.terms(words, "0 and 20 STEPS", () -> {
+        s.terms("WAYS of n STEPS (0 .. 20;", "0 and 20 STEPS", () -> {
             ways(Due.corridor(""), 0, 1, 0, 0, 0, 0, 0, 0);
             ways(Due.corridor(""), 1, 1, 1, 0, 0, 0, 0, 0);
             ways(Due.corridor(""), 20, 49726649, 88560464, 108552585, 106466024, 83872004, 45966796, 0);
             ways(Due.corridor("vh0205;"), 20, 524288, 524288, 0);
         });
-        s.terms(words, "more than an int holds", () -> {
+        s.terms("how many end on a SQUARE;", "more than an int holds", () -> {
             HowFarShesGot x = new HowFarShesGot();
             s.due("ways(20, 14)", x.ways(20, 14), 1392470618509L);
             s.due("ways(19, 14)", x.ways(19, 14), 303828960367L);
             s.due("ways(20, 0)", x.ways(20, 0), 299947067516L);
             s.due("ways(20, 35)", x.ways(20, 35), 234288333936L);
         });
-        s.terms(words, "suns, beds and gaps as lawn, whatever WARM is", () -> {
-            ways(Due.corridor("w9;ks00;kb01;kg02;ks03;"), 4, 9, 12, 9, 4, 1, 0, 0);
-            ways(Due.corridor("w0;ks00;kb01;kg02;ks03;"), 4, 9, 12, 9, 4, 1, 0, 0);
-        });
-        s.terms(words, "no way onto a hedge", () ->
+        s.terms("all SQUARES as LAWN, but where she can not be;",
+            "suns, beds and gaps as lawn, whatever WARM is", () -> {
+                ways(Due.corridor("w9;ks00;kb01;kg02;ks03;"), 4, 9, 12, 9, 4, 1, 0, 0);
+                ways(Due.corridor("w0;ks00;kb01;kg02;ks03;"), 4, 9, 12, 9, 4, 1, 0, 0);
+            });
+        s.terms("all SQUARES as LAWN, but where she can not be;", "no way onto a hedge", () ->
             ways(Due.corridor("kh02;"), 20, 524288, 524288, 0, 0, 0, 0, 0));
-        s.terms(words, "off roads none but staying", () -> {
+        s.terms("off ROADS none but staying)", "off roads none but staying", () -> {
             ways(Due.corridor("kr02;"), 3, 4, 4, 3, 0, 0, 0, 0);
             ways(Due.corridor("kr02;"), 4, 8, 8, 7, 0, 0, 0, 0);
             ways(Due.corridor("kr00;"), 20, 1, 0, 0, 0, 0, 0, 0);
         });
-        s.terms(words, "on HOME's corner and in the middle", () -> {
+        s.terms("a STEP is to one beside it or she stays;", "on HOME's corner and in the middle", () -> {
             s.due("corner", Due.garden("h35;").ways(2, 35), 3);
             s.due("edge", Due.garden("h03;").ways(2, 3), 4);
             s.due("middle", new HowFarShesGot().ways(2, 14), 5);
@@ -182,47 +181,46 @@ final class HoldBounds {
     }
 
     private void turning() {
-        String words = "TURNING: she turns left at what she can not go on to: from HOME, facing (0 up, 1 left, 2 down,"
-            + " 3 right), n STEPS (0 .. 99; each SQUARE as LAWN): each STEP she goes ahead if she can, else faces left"
-            + " (that is the STEP): where she is.";
-        s.terms(words, "0 up, 1 left, 2 down, 3 right", () -> {
+        s.terms("facing (0 up, 1 left, 2 down, 3 right)", "0 up, 1 left, 2 down, 3 right", () -> {
             int[] due = {8, 13, 20, 15};
             for (int facing = 0; facing < 4; facing++) {
                 s.due("turning(" + facing + ", 1)", new HowFarShesGot().turning(facing, 1), due[facing]);
                 s.due("turning(" + facing + ", 0)", new HowFarShesGot().turning(facing, 0), 14);
             }
         });
-        s.terms(words, "left of each: up, left, down, right, up", () -> {
-            int[] hedges = {8, 13, 20, 15};
-            int[] due = {13, 20, 15, 8};
-            for (int facing = 0; facing < 4; facing++) {
-                HowFarShesGot x = new HowFarShesGot();
-                x.turnTo(hedges[facing], 1);
-                s.due("at a hedge turning(" + facing + ", 1)", x.turning(facing, 1), 14);
-                s.due("then turning(" + facing + ", 2)", x.turning(facing, 2), due[facing]);
-            }
-        });
-        s.terms(words, "98 and 99 STEPS", () -> {
+        s.terms("TURNING: she turns left at what she can not go on to",
+            "left of each: up, left, down, right, up", () -> {
+                int[] hedges = {8, 13, 20, 15};
+                int[] due = {13, 20, 15, 8};
+                for (int facing = 0; facing < 4; facing++) {
+                    HowFarShesGot x = new HowFarShesGot();
+                    x.turnTo(hedges[facing], 1);
+                    s.due("at a hedge turning(" + facing + ", 1)", x.turning(facing, 1), 14);
+                    s.due("then turning(" + facing + ", 2)", x.turning(facing, 2), due[facing]);
+                }
+            });
+        s.terms("n STEPS (0 .. 99;", "98 and 99 STEPS", () -> {
             HowFarShesGot x = Due.corridor("");
             s.due("turning(3, 97)", x.turning(3, 97), 0);
             s.due("turning(3, 98)", x.turning(3, 98), 0);
             s.due("turning(3, 99)", x.turning(3, 99), 1);
         });
-        s.terms(words, "round by the edge; hedges are as the edge", () -> {
-            int[] edge = {14, 8, 2, 2, 1, 0, 0, 6, 12, 18, 24, 30, 30, 31};
-            int[] hedges = {2, 8, 14, 20, 26, 26, 26, 20, 14, 8, 2, 2, 1, 0};
-            for (int n = 0; n < edge.length; n++) {
-                s.due("by the edge turning(0, " + n + ")", new HowFarShesGot().turning(0, n), edge[n]);
-                HowFarShesGot x = Due.garden("vh0306;vh0912;vh1518;vh2124;vh2735;h02;");
-                s.due("by hedges turning(2, " + n + ")", x.turning(2, n), hedges[n]);
-            }
-        });
-        s.terms(words, "suns, beds and gaps as lawn; off a road she never goes", () -> {
+        s.terms("each STEP she goes ahead if she can, else faces left (that is the STEP): where she is.",
+            "round by the edge; hedges are as the edge", () -> {
+                int[] edge = {14, 8, 2, 2, 1, 0, 0, 6, 12, 18, 24, 30, 30, 31};
+                int[] hedges = {2, 8, 14, 20, 26, 26, 26, 20, 14, 8, 2, 2, 1, 0};
+                for (int n = 0; n < edge.length; n++) {
+                    s.due("by the edge turning(0, " + n + ")", new HowFarShesGot().turning(0, n), edge[n]);
+                    HowFarShesGot x = Due.garden("vh0306;vh0912;vh1518;vh2124;vh2735;h02;");
+                    s.due("by hedges turning(2, " + n + ")", x.turning(2, n), hedges[n]);
+                }
+            });
+        s.terms("each SQUARE as LAWN)", "suns, beds and gaps as lawn; off a road she never goes", () -> {
             s.due("slow ones", Due.corridor("w9;ks00;kb01;ks02;kg03;").turning(3, 4), 4);
             s.due("a road", Due.corridor("kr03;").turning(3, 99), 3);
             s.due("HOME a road", Due.garden("kr14;").turning(0, 99), 14);
         });
-        s.terms(words, "nowhere to go", () -> {
+        s.terms("TURNING: she turns left at what she can not go on to", "nowhere to go", () -> {
             HowFarShesGot x = Due.garden("h00;kh01;kh06;");
             for (int facing = 0; facing < 4; facing++) {
                 s.due("turning(" + facing + ", 99)", x.turning(facing, 99), 0);
@@ -231,8 +229,8 @@ final class HoldBounds {
     }
 
     private void promise19Hold() {
-        s.promise(19, "HOLD by the ROW (it stays): OUT (what 0), how many (1), ONE MORE (2).", "nothing changes by it",
-            () -> {
+        s.promise(19, "HOLD by the ROW (it stays): OUT (what 0), how many (1), ONE MORE (2).",
+            "nothing changes by it", () -> {
                 twins.asks(() -> Due.row(Due.corridor("kr05;"), 3), 0, "hold(0)", x -> x.hold(0));
                 twins.asks(() -> Due.row(Due.corridor("kr05;"), 3), 3, "hold(1)", x -> x.hold(1));
                 twins.asks(() -> Due.row(Due.corridor("kr05;"), 3), 1, "hold(2)", x -> x.hold(2));

@@ -66,8 +66,7 @@ final class ImageBounds {
     }
 
     private void image() {
-        String words = "THE IMAGE: all that there is, but it, the ROW, letters, REFUSALS; ON from it all is as then.";
-        s.terms(words, "squares, HOME, PACE, WARM and SEEKERS are as then", () -> {
+        s.terms("ON from it all is as then.", "squares, HOME, PACE, WARM and SEEKERS are as then", () -> {
             HowFarShesGot x = Due.garden("h20;kh00;kg01;ks02;kb03;kr04;kr35;p3;w8;sn07;se08;");
             int[] then = state(x);
             x.image();
@@ -77,54 +76,57 @@ final class ImageBounds {
             s.due("on()", x.on(), 20);
             sameState("behind on()", state(x), then);
         });
-        s.terms(words, "the ROW, letters and REFUSALS are as they are", () -> {
-            HowFarShesGot x = Due.row(Due.corridor(""), 1, 2);
-            Due.letters(x, "kg");
-            x.steps(36);
-            x.image();
-            Due.row(x, 3);
-            Due.letters(x, "05;");
-            x.steps(36);
-            x.on();
-            s.due("in the ROW", x.count(7), 3);
-            s.due("letters", x.count(8), 5);
-            s.due("refusals -1", x.count(11), 2);
-            s.due("the letters are those", x.garden(), 1);
-            s.due("a gap came", x.square(5, 0), 2);
-            s.due("the ROW is that", x.hold(1), 1);
-        });
-        s.terms(words, "the ROW and letters that are no more do not come again", () -> {
-            HowFarShesGot x = Due.letters(Due.row(Due.corridor(""), 1, 2), "kg05;");
-            x.image();
-            x.behind(0);
-            x.garden();
-            x.on();
-            s.due("in the ROW", x.count(7), 0);
-            s.due("letters", x.count(8), 0);
-            s.due("lawn", x.square(5, 0), 0);
-        });
-        s.terms(words, "of a new object, and to it", () -> {
+        s.terms("THE IMAGE: all that there is, but it, the ROW, letters, REFUSALS",
+            "the ROW, letters and REFUSALS are as they are", () -> {
+                HowFarShesGot x = Due.row(Due.corridor(""), 1, 2);
+                Due.letters(x, "kg");
+                x.steps(36);
+                x.image();
+                Due.row(x, 3);
+                Due.letters(x, "05;");
+                x.steps(36);
+                x.on();
+                s.due("in the ROW", x.count(7), 3);
+                s.due("letters", x.count(8), 5);
+                s.due("refusals -1", x.count(11), 2);
+                s.due("the letters are those", x.garden(), 1);
+                s.due("a gap came", x.square(5, 0), 2);
+                s.due("the ROW is that", x.hold(1), 1);
+            });
+        s.terms("THE IMAGE: all that there is, but it, the ROW, letters, REFUSALS",
+            "the ROW and letters that are no more do not come again", () -> {
+                HowFarShesGot x = Due.letters(Due.row(Due.corridor(""), 1, 2), "kg05;");
+                x.image();
+                x.behind(0);
+                x.garden();
+                x.on();
+                s.due("in the ROW", x.count(7), 0);
+                s.due("letters", x.count(8), 0);
+                s.due("lawn", x.square(5, 0), 0);
+            });
+        s.terms("ON from it all is as then.", "of a new object, and to it", () -> {
             HowFarShesGot x = new HowFarShesGot();
             x.image();
             Due.tell(x, "vh1535;h00;p9;w9;sf00;sf01;sf02;");
             s.due("on()", x.on(), 14);
             twins.alike(x, imaged(new HowFarShesGot()), 0, "behind on()");
         });
-        s.terms(words, "it stays as it was, whatever comes behind ON", () -> {
-            HowFarShesGot x = Due.garden("sf00;");
-            x.image();
-            for (int i = 0; i < 3; i++) {
-                x.turnTo(7, 1);
-                x.set(0, 20 + i);
-                x.stand(0, 9);
-                Due.tell(x, "sn01;");
-                s.due("on() again", x.on(), 14);
-                s.due("lawn", x.square(7, 0), 0);
-                s.due("where he stood", x.seeker(0, 1), 0);
-                s.due("SEEKERS", x.count(3), 1);
-            }
-        });
-        s.terms(words, "the later one alone", () -> {
+        s.terms("THE IMAGE: all that there is, but it, the ROW, letters, REFUSALS",
+            "it stays as it was, whatever comes behind ON", () -> {
+                HowFarShesGot x = Due.garden("sf00;");
+                x.image();
+                for (int i = 0; i < 3; i++) {
+                    x.turnTo(7, 1);
+                    x.set(0, 20 + i);
+                    x.stand(0, 9);
+                    Due.tell(x, "sn01;");
+                    s.due("on() again", x.on(), 14);
+                    s.due("lawn", x.square(7, 0), 0);
+                    s.due("where he stood", x.seeker(0, 1), 0);
+                    s.due("SEEKERS", x.count(3), 1);
+                }
+            });
+        s.terms("ON from it all is as then.", "the later one alone", () -> {
             HowFarShesGot x = new HowFarShesGot();
             x.image();
             x.set(0, 20);
@@ -141,12 +143,11 @@ final class ImageBounds {
     }
 
     private void refusals() {
-        String which = "REFUSALS (the call answers the number, the first that fits in the order in which it tells them;"
-            + " nothing changes but how many there were)";
-        s.terms(which, "each is counted once a call, and by its own number alone", () -> {
+        s.terms("REFUSALS (the call answers the number, the first that fits in the order in which it tells them",
+            "each is counted once a call, and by its own number alone", () -> {
             HowFarShesGot x = new HowFarShesGot();
-            List<ToLongFunction<HowFarShesGot>> calls = List.of(y -> y.square(36, 3), y -> y.square(0, 3), HowFarShesGot::on,
-                y -> y.mayBe(-1, 36), y -> y.mayBe(1000, 36));
+            List<ToLongFunction<HowFarShesGot>> calls = List.of(y -> y.square(36, 3), y -> y.square(0, 3),
+                HowFarShesGot::on, y -> y.mayBe(-1, 36), y -> y.mayBe(1000, 36));
             int[] numbers = {-1, -2, -3, -4, -6};
             int[] due = new int[7];
             for (int round = 1; round <= 3; round++) {
@@ -159,7 +160,7 @@ final class ImageBounds {
                 }
             }
         });
-        s.terms(which, "answers below 0 that are none are not counted", () -> {
+        s.terms("nothing changes but how many there were)", "answers below 0 that are none are not counted", () -> {
             HowFarShesGot x = Due.corridor("p1;sf00;");
             s.due("steps", x.steps(6), -9);
             s.due("out", x.out(0), -9);
@@ -203,8 +204,8 @@ final class ImageBounds {
         });
         s.terms("-6 ROOM: a number above the greatest, no room.", "each call that can", () -> {
             each(-6, x -> x.letter(256), x -> x.set(1, 10), x -> x.set(2, 10), x -> x.mayBe(1000, 0),
-                x -> x.likeliest(21), x -> x.turning(0, 100), x -> x.row(100), x -> x.judge(1000), x -> x.behind(1000),
-                x -> x.lots(21, 0));
+                x -> x.likeliest(21), x -> x.turning(0, 100), x -> x.row(100), x -> x.judge(1000),
+                x -> x.behind(1000), x -> x.lots(21, 0));
             eachLong(-6, x -> x.ways(21, 0), x -> x.likely(21, 0, 0));
             twins.refused(Twins.FULL, -6, "letter", x -> x.letter('k'));
             twins.refused(Twins.FULL, -6, "row", x -> x.row(0));
@@ -287,22 +288,21 @@ final class ImageBounds {
     }
 
     private void promise31Count() {
-        s.promise(31, "0 HOME, 1 PACE, 2 WARM, 3 SEEKERS, 4 HEDGES, 5 GAPS, 6 ROADS, 7 in the ROW, 8 letters", "least",
-            () -> counts(new HowFarShesGot(), 14, 2, 5, 0, 0, 0, 0, 0, 0));
-        s.promise(31, "0 HOME, 1 PACE, 2 WARM, 3 SEEKERS, 4 HEDGES, 5 GAPS, 6 ROADS, 7 in the ROW, 8 letters", "each its own",
-            () -> {
-                HowFarShesGot x = Due.garden("h35;p7;w1;sf00;vh0006;vg0708;vr0911;ks12;kb13;");
-                Due.letters(Due.row(x, 5, 6, 7, 8), "p1");
-                counts(x, 35, 7, 1, 1, 7, 2, 3, 4, 2);
-            });
-        s.promise(31, "0 HOME, 1 PACE, 2 WARM, 3 SEEKERS, 4 HEDGES, 5 GAPS, 6 ROADS, 7 in the ROW, 8 letters", "greatest",
-            () -> {
-                HowFarShesGot x = Due.garden("h35;p9;w9;sf00;sf00;sf00;vh0034;");
-                Due.letters(Due.row(x, 0, 0, 0, 0, 0, 0, 0, 0, 0, 0, 0, 0), "p1;".repeat(32));
-                counts(x, 35, 9, 9, 3, 35, 0, 0, 12, 96);
-                counts(Due.garden("vg0035;"), 14, 2, 5, 0, 0, 36, 0, 0, 0);
-                counts(Due.garden("vr0035;h00;"), 0, 2, 5, 0, 0, 0, 36, 0, 0);
-            });
+        String words = "0 HOME, 1 PACE, 2 WARM, 3 SEEKERS, 4 HEDGES, 5 GAPS, 6 ROADS, 7 in the ROW, 8 letters";
+        s.promise(31, words, "least", () ->
+            counts(new HowFarShesGot(), 14, 2, 5, 0, 0, 0, 0, 0, 0));
+        s.promise(31, words, "each its own", () -> {
+            HowFarShesGot x = Due.garden("h35;p7;w1;sf00;vh0006;vg0708;vr0911;ks12;kb13;");
+            Due.letters(Due.row(x, 5, 6, 7, 8), "p1");
+            counts(x, 35, 7, 1, 1, 7, 2, 3, 4, 2);
+        });
+        s.promise(31, words, "greatest", () -> {
+            HowFarShesGot x = Due.garden("h35;p9;w9;sf00;sf00;sf00;vh0034;");
+            Due.letters(Due.row(x, 0, 0, 0, 0, 0, 0, 0, 0, 0, 0, 0, 0), "p1;".repeat(32));
+            counts(x, 35, 9, 9, 3, 35, 0, 0, 12, 96);
+            counts(Due.garden("vg0035;"), 14, 2, 5, 0, 0, 36, 0, 0, 0);
+            counts(Due.garden("vr0035;h00;"), 0, 2, 5, 0, 0, 0, 36, 0, 0);
+        });
         s.promise(31, "11 .. 16 REFUSALS -1 .. -6.", "11 and 16, and 15 that none has", () -> {
             HowFarShesGot x = new HowFarShesGot();
             int[] due = {0, 0, 0, 0, 0, 0};

@@ -34,18 +34,15 @@ final class RowBounds {
     }
 
     private void firstPair() {
-        String set = "FINDS: a ROW by twos tells SQUARES and MINUTES at which she was there: she set out from HOME at"
-            + " MINUTE 0;";
-        s.terms(set, "minute 0 at HOME alone", () -> {
+        s.terms("she set out from HOME at MINUTE 0;", "minute 0 at HOME alone", () -> {
             pair("", -9, 0, 0);
             pair("", 0, 1, 0);
             pair("h01;", -9, 1, 0);
             pair("h01;", 0, 0, 0);
         });
-        s.terms(set, "none at all", () -> pair("", -9));
-        String needs = "from one to the next she needs MINUTES of STEPS between them (none, if there are none such: 0 on"
-            + " the same)";
-        s.terms(needs, "as many, not one less", () -> {
+        s.terms("FINDS: a ROW by twos tells SQUARES and MINUTES at which she was there", "none at all", () ->
+            pair("", -9));
+        s.terms("from one to the next she needs MINUTES of STEPS between them", "as many, not one less", () -> {
             pair("", -9, 2, 4);
             pair("", 0, 2, 3);
             pair("", -9, 2, 4, 0, 8);
@@ -57,29 +54,29 @@ final class RowBounds {
             pair("ks02;w9;", -9, 2, 4, 3, 12);
             pair("ks02;w9;", 1, 2, 4, 3, 11);
         });
-        s.terms(needs, "99 minutes at most", () -> {
+        s.terms("from one to the next she needs MINUTES of STEPS between them", "99 minutes at most", () -> {
             s.due("11 steps of 9", Due.row(Due.garden("h00;ks00;w3;p9;"), 35, 99).finds(0), -9);
             s.due("12 steps of 9", Due.row(Due.garden("h00;ks00;w6;p9;"), 35, 99).finds(0), 0);
         });
-        s.terms(needs, "none: on hedges and behind them", () -> {
+        s.terms("(none, if there are none such: 0 on the same)", "none: on hedges and behind them", () -> {
             pair("", 0, 6, 99);
             pair("kh02;", 0, 3, 99);
             pair("", 1, 1, 50, 35, 99);
         });
-        s.terms(needs, "0 on the same, and no minute may be before", () -> {
+        s.terms("(none, if there are none such: 0 on the same)", "0 on the same, and no minute may be before", () -> {
             pair("", -9, 2, 4, 2, 4);
             pair("", 1, 2, 4, 2, 3);
             pair("", 1, 2, 99, 2, 0);
             pair("ks00;w9;p9;", -9, 0, 0, 0, 0, 0, 0);
         });
-        String first = "the first pair that can not be by the MINUTES between (ROADS are left by none); -9;";
-        s.terms(first, "0 and 5 of six; each counts from the one before", () -> {
-            pair("", 5, 0, 0, 1, 2, 2, 4, 3, 6, 4, 8, 5, 9);
-            pair("", -9, 0, 0, 1, 2, 2, 4, 3, 6, 4, 8, 5, 10);
-            pair("", 0, 5, 9, 0, 0, 5, 0, 0, 0, 5, 0, 0, 0);
-            pair("", 2, 2, 9, 2, 99, 3, 99, 4, 99);
-        });
-        s.terms(first, "roads", () -> {
+        s.terms("the first pair that can not be by the MINUTES between",
+            "0 and 5 of six; each counts from the one before", () -> {
+                pair("", 5, 0, 0, 1, 2, 2, 4, 3, 6, 4, 8, 5, 9);
+                pair("", -9, 0, 0, 1, 2, 2, 4, 3, 6, 4, 8, 5, 10);
+                pair("", 0, 5, 9, 0, 0, 5, 0, 0, 0, 5, 0, 0, 0);
+                pair("", 2, 2, 9, 2, 99, 3, 99, 4, 99);
+            });
+        s.terms("(ROADS are left by none); -9;", "roads", () -> {
             pair("kr02;", -9, 2, 4, 2, 99);
             pair("kr02;", 1, 2, 4, 1, 99);
             pair("kr02;", 1, 2, 4, 3, 99);
@@ -130,30 +127,30 @@ final class RowBounds {
     }
 
     private void judged() {
-        String words = "JUDGED: the ROW as looks from MINUTE t on: the first at a SQUARE that is not in the set any more;"
-            + " -9;";
-        s.terms(words, "none, the first, the twelfth", () -> {
+        s.terms("the first at a SQUARE that is not in the set any more; -9;", "none, the first, the twelfth", () -> {
             s.due("no looks", Due.corridor("").judge(0), -9);
             s.due("the first", rowIn("", 6, 0, 0).judge(999), 0);
             s.due("all", rowIn("p1;", 0, 0, 0, 0, 0, 0, 0, 0, 0, 0, 0, 0).judge(999), -9);
             s.due("the twelfth", rowIn("p1;", 0, 0, 0, 0, 0, 0, 0, 0, 0, 0, 0, 6).judge(999), 11);
         });
-        s.terms(words, "she may be there from a minute on", () -> {
+        s.terms("JUDGED: the ROW as looks from MINUTE t on", "she may be there from a minute on", () -> {
             s.due("not yet", rowIn("", 1).judge(1), 0);
             s.due("then", rowIn("", 1).judge(2), -9);
             s.due("35 not yet", Due.row(new HowFarShesGot(), 35).judge(11), 0);
             s.due("35 then", Due.row(new HowFarShesGot(), 35).judge(12), -9);
         });
-        s.terms(words, "not any more, and again behind a step", () -> {
-            s.due("no step between", rowIn("", 0, 0).judge(2), 1);
-            s.due("a step between", rowIn("", 0, 0).judge(3), -9);
-            s.due("she is found", rowIn("", 0, 0).judge(1), 1);
-            s.due("a road sends none", rowIn("kr01;", 0, 0).judge(3), 1);
-        });
-        s.terms(words, "a number above 35 is no SQUARE of it", () -> {
-            s.due("36", Due.row(new HowFarShesGot(), 14, 36).judge(999), 1);
-            s.due("99", Due.row(new HowFarShesGot(), 99).judge(999), 0);
-        });
+        s.terms("the first at a SQUARE that is not in the set any more; -9;",
+            "not any more, and again behind a step", () -> {
+                s.due("no step between", rowIn("", 0, 0).judge(2), 1);
+                s.due("a step between", rowIn("", 0, 0).judge(3), -9);
+                s.due("she is found", rowIn("", 0, 0).judge(1), 1);
+                s.due("a road sends none", rowIn("kr01;", 0, 0).judge(3), 1);
+            });
+        s.terms("the first at a SQUARE that is not in the set any more; -9;",
+            "a number above 35 is no SQUARE of it", () -> {
+                s.due("36", Due.row(new HowFarShesGot(), 14, 36).judge(999), 1);
+                s.due("99", Due.row(new HowFarShesGot(), 99).judge(999), 0);
+            });
     }
 
     private void left() {
@@ -211,9 +208,7 @@ final class RowBounds {
     }
 
     private void lots() {
-        String words = "LOTS with a seed z: n walks (1 .. 20) from HOME, each 30 STEPS: to a DRAW below 4 (up, left, right,"
-            + " down; she stays, if she can not), off ROADS never: how often she is OUT.";
-        s.terms(words, "from 1 walk to 20", () -> {
+        s.terms("LOTS with a seed z: n walks (1 .. 20) from HOME", "from 1 walk to 20", () -> {
             for (int walks = 1; walks <= 20; walks++) {
                 lots("kr08;", walks, 5);
                 lots("kr35;kh15;", walks, 77);
@@ -222,7 +217,7 @@ final class RowBounds {
             s.due("HOME is a road: 20", Due.garden("kr14;").lots(20, 3), 20);
             s.due("no road", new HowFarShesGot().lots(20, 3), 0);
         });
-        s.terms(words, "30 STEPS, not 29 and not 31", () -> {
+        s.terms("each 30 STEPS", "30 STEPS, not 29 and not 31", () -> {
             HowFarShesGot x = Due.garden("kr00;kr35;");
             int[] kinds = kinds(x);
             int less = 0;
@@ -235,19 +230,20 @@ final class RowBounds {
             }
             s.due("some come to it in the 30th STEP, some in the 31st", less > 0 && more > 0 ? 1 : 0, 1);
         });
-        s.terms(words, "each of the four alone", () -> {
-            int[] four = {8, 13, 15, 20};
-            for (int road : four) {
-                StringBuilder garden = new StringBuilder("kr" + two(road) + ";");
-                for (int hedge : four) {
-                    garden.append(hedge == road ? "" : "kh" + two(hedge) + ";");
+        s.terms("to a DRAW below 4 (up, left, right, down; she stays, if she can not)",
+            "each of the four alone", () -> {
+                int[] four = {8, 13, 15, 20};
+                for (int road : four) {
+                    StringBuilder garden = new StringBuilder("kr" + two(road) + ";");
+                    for (int hedge : four) {
+                        garden.append(hedge == road ? "" : "kh" + two(hedge) + ";");
+                    }
+                    for (int seed = 0; seed < 400; seed++) {
+                        lots(garden.toString(), 1, seed * 7919);
+                    }
                 }
-                for (int seed = 0; seed < 400; seed++) {
-                    lots(garden.toString(), 1, seed * 7919);
-                }
-            }
-        });
-        s.terms(words, "off roads never: one beside another", () -> {
+            });
+        s.terms("off ROADS never: how often she is OUT.", "off roads never: one beside another", () -> {
             for (int seed = 0; seed < 50; seed++) {
                 lots("kr08;kl02;kr13;kr15;kr20;", 20, seed);
                 lots("h00;kr01;kr06;", 20, seed);
@@ -260,29 +256,30 @@ final class RowBounds {
     }
 
     private void draws() {
-        String words = "A DRAW below m: z becomes z times 1664525 and 1013904223 (an int); (z without its sign's bit by 256,"
-            + " cut) modulo m.";
-        s.terms(words, "seeds at the ends of the ints, and by lot", () -> {
-            for (int seed : new int[] {LEAST, LEAST + 1, -1, 0, 1, GREATEST - 1, GREATEST, 1 << 30, -256, 255, 256}) {
-                lots("kr35;", 20, seed);
-                lots("kr00;kr05;kh13;", 20, seed);
-                lots("kr08;", 1, seed);
-            }
-        });
-        s.terms(words, "the walks of one call go on from one z", () -> {
-            HowFarShesGot x = Due.garden("kr00;kr35;");
-            int apart = 0;
-            for (int seed = 0; seed < 200; seed++) {
-                apart += x.lots(2, seed) == 2 * x.lots(1, seed) ? 0 : 1;
-            }
-            s.due("two walks are not one twice", apart > 0 ? 1 : 0, 1);
-        });
-        s.terms(words, "the same seed, the same walks", () -> {
-            HowFarShesGot x = Due.garden("kr00;kr35;");
-            for (int seed = 0; seed < 20; seed++) {
-                s.due("lots(20, " + seed + ") again", x.lots(20, seed), x.lots(20, seed));
-            }
-        });
+        s.terms("(z without its sign's bit by 256, cut) modulo m.",
+            "seeds at the ends of the ints, and by lot", () -> {
+                for (int seed : new int[] {LEAST, LEAST + 1, -1, 0, 1, 255, 256, 1 << 30, GREATEST - 1, GREATEST}) {
+                    lots("kr35;", 20, seed);
+                    lots("kr00;kr05;kh13;", 20, seed);
+                    lots("kr08;", 1, seed);
+                }
+            });
+        s.terms("A DRAW below m: z becomes z times 1664525 and 1013904223 (an int);",
+            "the walks of one call go on from one z", () -> {
+                HowFarShesGot x = Due.garden("kr00;kr35;");
+                int apart = 0;
+                for (int seed = 0; seed < 200; seed++) {
+                    apart += x.lots(2, seed) == 2 * x.lots(1, seed) ? 0 : 1;
+                }
+                s.due("two walks are not one twice", apart > 0 ? 1 : 0, 1);
+            });
+        s.terms("A DRAW below m: z becomes z times 1664525 and 1013904223 (an int);",
+            "the same seed, the same walks", () -> {
+                HowFarShesGot x = Due.garden("kr00;kr35;");
+                for (int seed = 0; seed < 20; seed++) {
+                    s.due("lots(20, " + seed + ") again", x.lots(20, seed), x.lots(20, seed));
+                }
+            });
     }
 
     private void promise24Finds() {

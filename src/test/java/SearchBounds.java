@@ -48,13 +48,14 @@ final class SearchBounds {
     }
 
     private void searches() {
-        s.terms("A SEARCH goes by looks, one a MINUTE, from MINUTE t on", "the step is at minute 27, from each t", () -> {
-            HowFarShesGot x = Due.corridor("p9;sf00;");
-            sizes("three looks ahead of it", x, 24, 3, 2, 1, 0, 0);
-            sizes("two looks ahead of it", x, 25, 3, 2, 3, 2, 1, 0);
-            sizes("one look ahead of it", x, 26, 3, 4, 3, 2, 1, 0);
-            sizes("it has been", x, 27, 4, 3, 2, 1, 0);
-        });
+        s.terms("A SEARCH goes by looks, one a MINUTE, from MINUTE t on",
+            "the step is at minute 27, from each t", () -> {
+                HowFarShesGot x = Due.corridor("p9;sf00;");
+                sizes("three looks ahead of it", x, 24, 3, 2, 1, 0, 0);
+                sizes("two looks ahead of it", x, 25, 3, 2, 3, 2, 1, 0);
+                sizes("one look ahead of it", x, 26, 3, 4, 3, 2, 1, 0);
+                sizes("it has been", x, 27, 4, 3, 2, 1, 0);
+            });
         s.terms("by a SET of SQUARES: at first MAY BE at t", "at 0, at 999 and between", () -> {
             HowFarShesGot x = Due.garden("kh15;kr20;ks08;sf00;");
             for (int t = 0; t < 40; t++) {
@@ -76,8 +77,9 @@ final class SearchBounds {
                 s.due("PACE " + pace + ": left(0, 998, 1)", x.left(0, 998, 1), 999 % pace == 0 ? 36 : 35);
             }
         });
-        s.terms("then MINUTE is 1 more, and if PACE divides it", "at minute 0 there is no step ahead of the look", () ->
-            sizes("p1", Due.garden("p1;sf00;"), 0, 1, 0, 0));
+        s.terms("then MINUTE is 1 more, and if PACE divides it",
+            "at minute 0 there is no step ahead of the look", () ->
+                sizes("p1", Due.garden("p1;sf00;"), 0, 1, 0, 0));
         spreading();
     }
 
@@ -86,7 +88,7 @@ final class SearchBounds {
         s.terms(words, "none beside a road", () -> {
             sizes("a road alone", Due.corridor("kr01;sf00;"), 3, 2, 1, 0);
             sizes("a road that is HOME", Due.garden("kr14;sf00;p1;"), 999, 1, 0);
-            sizes("four roads, once HOME is looked at", Due.garden("kr08;kr13;kr15;kr20;sm00;p1;"), 2, 5, 4, 3, 2, 1, 0);
+            sizes("four roads round HOME", Due.garden("kr08;kr13;kr15;kr20;sm00;p1;"), 2, 5, 4, 3, 2, 1, 0);
         });
         s.terms(words, "a road itself comes into it", () ->
             sizes("lawn, lawn, road", Due.corridor("kr02;sf00;p1;"), 1, 2, 3, 3));
@@ -110,58 +112,58 @@ final class SearchBounds {
     }
 
     private void near() {
-        String words = "the one nearest to where he stands (rows and columns apart together), of several the least; he"
-            + " stands there then.";
-        s.terms(words, "rows and columns together", () -> {
-            looks("p9;h14;kh13;kh20;kh15;sn18;", 9, 14, 8, -9);
-            looks("p9;h14;kh13;kh20;kh15;sn02;", 9, 8, 14, -9);
-        });
-        s.terms(words, "of several the least", () -> {
+        s.terms("the one nearest to where he stands (rows and columns apart together)",
+            "rows and columns together", () -> {
+                looks("p9;h14;kh13;kh20;kh15;sn18;", 9, 14, 8, -9);
+                looks("p9;h14;kh13;kh20;kh15;sn02;", 9, 8, 14, -9);
+            });
+        s.terms("of several the least; he stands there then.", "of several the least", () -> {
             looks(CROSS + "sn14;", 9, 14, 8, 13, 15, 20, -9);
             looks(CROSS + "sn35;", 9, 15, 14, 8, 13, 20, -9);
         });
-        s.terms(words, "he looks on from where he looked", () ->
+        s.terms("of several the least; he stands there then.", "he looks on from where he looked", () ->
             looks(Due.CORRIDOR + "p9;sn02;", 36, 2, 1, 0, 3, 4, -9));
-        s.terms(words, "where he is himself is nearest; from corner to corner is ten", () -> {
-            looks("h00;p9;sn00;", 9, 0, 1, 6, -9);
-            looks("h00;sn35;", 0, 0, -9);
-            looks("h35;sn00;", 0, 35, -9);
-            looks("h05;sn30;", 0, 5, -9);
-            looks("h30;sn05;", 0, 30, -9);
-        });
-        s.terms(words, "each search begins where he stands, and leaves him there", () -> {
-            HowFarShesGot x = Due.corridor("p9;sn02;");
-            for (int i = 0; i < 3; i++) {
-                s.due("search(0, 36)", x.search(0, 36), 5);
-                s.due("looksAt(0, 36, 0)", x.looksAt(0, 36, 0), 2);
-                s.due("seeker(0, 1)", x.seeker(0, 1), 2);
-            }
-        });
+        s.terms("the one nearest to where he stands (rows and columns apart together)",
+            "where he is himself is nearest; from corner to corner is ten", () -> {
+                looks("h00;p9;sn00;", 9, 0, 1, 6, -9);
+                looks("h00;sn35;", 0, 0, -9);
+                looks("h35;sn00;", 0, 35, -9);
+                looks("h05;sn30;", 0, 5, -9);
+                looks("h30;sn05;", 0, 30, -9);
+            });
+        s.terms("the one nearest to where he stands (rows and columns apart together)",
+            "each search begins where he stands, and leaves him there", () -> {
+                HowFarShesGot x = Due.corridor("p9;sn02;");
+                for (int i = 0; i < 3; i++) {
+                    s.due("search(0, 36)", x.search(0, 36), 5);
+                    s.due("looksAt(0, 36, 0)", x.looksAt(0, 36, 0), 2);
+                    s.due("seeker(0, 1)", x.seeker(0, 1), 2);
+                }
+            });
     }
 
     private void most() {
-        String words = "m MOST under FIRST: the one with the most SQUARES of the set beside it, of several the least.";
-        s.terms(words, "four before one; when none has, the least", () ->
+        String most = "m MOST under FIRST: the one with the most SQUARES of the set beside it";
+        s.terms(most, "four before one; when none has, the least", () ->
             looks(CROSS + "sm35;", 9, 14, 8, 13, 15, 20, -9));
-        s.terms(words, "of several the least", () -> {
+        s.terms("SQUARES of the set beside it, of several the least.", "of several the least", () -> {
             looks(Due.CORRIDOR + "p9;sm05;", 36, 1, 3, 0, 2, 4, -9);
             looks("p9;sm00;", 81, 7, 9, 14, 16, 19);
         });
-        s.terms(words, "one before none, though that is less", () ->
+        s.terms(most, "one before none, though that is less", () ->
             looks(Due.CORRIDOR + "p9;sm05;", 27, 1, 2, 0, 3, -9));
     }
 
     private void edge() {
-        String words = "e EDGE under MOST: the one with the fewest, but 1 at least, of several the least; none has: as a"
-            + " FIRST one.";
-        s.terms(words, "fewest, of several the least", () -> {
+        s.terms("of several the least; none has: as a FIRST one.", "fewest, of several the least", () -> {
             looks(CROSS + "se35;", 9, 8, 13, 15, 14, 20, -9);
             looks(Due.CORRIDOR + "p9;se05;", 36, 0, 1, 2, 3, 4, -9);
             looks("p9;se00;", 81, 0, 1, 2, 3, 4, 5);
         });
-        s.terms(words, "1 at least: not the one that has none beside it", () ->
-            looks(BLOCKS, 81, 1, 2, 3, 6, 7, 12, 9, 10, 15));
-        s.terms(words, "none has: the least", () -> {
+        s.terms("e EDGE under MOST: the one with the fewest, but 1 at least",
+            "1 at least: not the one that has none beside it", () ->
+                looks(BLOCKS, 81, 1, 2, 3, 6, 7, 12, 9, 10, 15));
+        s.terms("of several the least; none has: as a FIRST one.", "none has: the least", () -> {
             HowFarShesGot x = Due.garden("p9;kh00;kh08;kh10;kh11;kh21;kh25;kh28;kh31;kh34;se00;");
             s.due("two are left", x.left(0, 40, 38), 2);
             s.due("the less", x.looksAt(0, 40, 38), 29);
@@ -171,21 +173,21 @@ final class SearchBounds {
     }
 
     private void ahead() {
-        String words = "a AHEAD under NEAR: the one nearest to some ROAD so, of several the least; he stands there then;"
-            + " without ROADS as a NEAR one.";
-        s.terms(words, "nearest to some road, of several the least, wherever he stands", () -> {
-            for (String stand : new String[] {"00", "05", "14", "35"}) {
-                looks(CROSS + "kr30;sa" + stand + ";", 9, 13, 20, 14, 8, 15, -9);
-                looks(CROSS + "kr35;kr02;sa" + stand + ";", 9, 8, 14, 13, 15, 20, -9);
-            }
-        });
-        s.terms(words, "a road that she never comes to counts too", () ->
-            looks(Due.CORRIDOR + "p9;kr35;sa00;", 18, 2, 1, 0, -9));
-        s.terms(words, "rows and columns together", () -> {
+        s.terms("of several the least; he stands there then; without ROADS as a NEAR one.",
+            "nearest to some road, of several the least, wherever he stands", () -> {
+                for (String stand : new String[] {"00", "05", "14", "35"}) {
+                    looks(CROSS + "kr30;sa" + stand + ";", 9, 13, 20, 14, 8, 15, -9);
+                    looks(CROSS + "kr35;kr02;sa" + stand + ";", 9, 8, 14, 13, 15, 20, -9);
+                }
+            });
+        s.terms("a AHEAD under NEAR: the one nearest to some ROAD so",
+            "a road that she never comes to counts too", () ->
+                looks(Due.CORRIDOR + "p9;kr35;sa00;", 18, 2, 1, 0, -9));
+        s.terms("a AHEAD under NEAR: the one nearest to some ROAD so", "rows and columns together", () -> {
             looks("p9;h14;kh13;kh20;kh15;kr18;sa00;", 9, 14, 8, -9);
             looks("p9;kr14;sa00;", 999, 14, -9);
         });
-        s.terms(words, "without roads", () -> {
+        s.terms("of several the least; he stands there then; without ROADS as a NEAR one.", "without roads", () -> {
             looks(CROSS + "sa35;", 9, 15, 14, 8, 13, 20, -9);
             looks(Due.CORRIDOR + "p9;sa02;", 36, 2, 1, 0, 3, 4, -9);
         });
@@ -237,38 +239,40 @@ final class SearchBounds {
     }
 
     private void bestSeeker() {
-        String words = "BEST SEEKER: the KIND (0 .. 4, from where he stands) by which it is empty soonest, of several the"
-            + " first; -9.";
-        s.terms(words, "each KIND can be it", () -> {
-            best("p8;h10;kh00;kh09;kh21;kh34;", "16", 23, 0, 17, 25, -9, 21, 25);
-            best("p8;kh20;kh27;kh32;kh35;kr00;", "05", 22, 1, 61, 52, -9, -9, 63);
-            best("p9;kh06;kh15;kh20;kh35;", "14", 22, 2, 13, 14, 12, 13, 14);
-            best("p9;h16;kh00;kh01;kh08;kh26;kh27;kr15;", "04", 33, 3, 46, 39, -9, 28, 72);
-            best("p9;kr28;", "16", 17, 4, 23, 27, -9, 24, 19);
-        });
-        s.terms(words, "of several the first", () -> {
+        s.terms("BEST SEEKER: the KIND (0 .. 4, from where he stands) by which it is empty soonest",
+            "each KIND can be it", () -> {
+                best("p8;h10;kh00;kh09;kh21;kh34;", "16", 23, 0, 17, 25, -9, 21, 25);
+                best("p8;kh20;kh27;kh32;kh35;kr00;", "05", 22, 1, 61, 52, -9, -9, 63);
+                best("p9;kh06;kh15;kh20;kh35;", "14", 22, 2, 13, 14, 12, 13, 14);
+                best("p9;h16;kh00;kh01;kh08;kh26;kh27;kr15;", "04", 33, 3, 46, 39, -9, 28, 72);
+                best("p9;kr28;", "16", 17, 4, 23, 27, -9, 24, 19);
+            });
+        s.terms("of several the first; -9.", "of several the first", () -> {
             best("", "00", 0, 0, 1, 1, 1, 1, 1);
             best(Due.CORRIDOR, "05", 3, 1, 11, 3, 11, 11, 3);
         });
-        s.terms(words, "from where he stands, whatever his own KIND", () -> {
-            for (char kind : "fnmea".toCharArray()) {
-                HowFarShesGot x = Due.corridor("s" + kind + "05;");
-                s.due(kind + " at 5", x.bestSeeker(0, 3), 1);
-                x.stand(0, 0);
-                s.due(kind + " at 0", x.bestSeeker(0, 3), 0);
-            }
-        });
-        s.terms(words, "each SEEKER from his own place", () -> {
-            HowFarShesGot x = Due.corridor("sf00;sf05;sf00;");
-            s.due("0", x.bestSeeker(0, 3), 0);
-            s.due("1", x.bestSeeker(1, 3), 1);
-            s.due("2", x.bestSeeker(2, 3), 0);
-        });
-        s.terms(words, "200, not 201", () -> {
-            best("p7;", "12", 36, 0, 200, -9, -9, -9, -9);
-            best("p6;kh18;kh26;kh29;kh35;", "24", 31, -9, -9, -9, -9, -9, -9);
-        });
-        s.terms(words, "-9: by none", () -> best("p1;", "00", 999, -9, -9, -9, -9, -9, -9));
+        s.terms("BEST SEEKER: the KIND (0 .. 4, from where he stands) by which it is empty soonest",
+            "from where he stands, whatever his own KIND", () -> {
+                for (char kind : "fnmea".toCharArray()) {
+                    HowFarShesGot x = Due.corridor("s" + kind + "05;");
+                    s.due(kind + " at 5", x.bestSeeker(0, 3), 1);
+                    x.stand(0, 0);
+                    s.due(kind + " at 0", x.bestSeeker(0, 3), 0);
+                }
+            });
+        s.terms("BEST SEEKER: the KIND (0 .. 4, from where he stands) by which it is empty soonest",
+            "each SEEKER from his own place", () -> {
+                HowFarShesGot x = Due.corridor("sf00;sf05;sf00;");
+                s.due("0", x.bestSeeker(0, 3), 0);
+                s.due("1", x.bestSeeker(1, 3), 1);
+                s.due("2", x.bestSeeker(2, 3), 0);
+            });
+        s.terms("BEST SEEKER: the KIND (0 .. 4, from where he stands) by which it is empty soonest",
+            "200, not 201", () -> {
+                best("p7;", "12", 36, 0, 200, -9, -9, -9, -9);
+                best("p6;kh18;kh26;kh29;kh35;", "24", 31, -9, -9, -9, -9, -9, -9);
+            });
+        s.terms("of several the first; -9.", "-9: by none", () -> best("p1;", "00", 999, -9, -9, -9, -9, -9, -9));
     }
 
     /** The best KIND, and behind how many looks the set is empty by each of the five. */
@@ -281,20 +285,20 @@ final class SearchBounds {
     }
 
     private void allSeekers() {
-        String words = "ALL SEEKERS look in turn, by numbers, a MINUTE each: behind how many looks it is empty; -9.";
-        s.terms(words, "one, two, three", () -> {
+        s.terms("ALL SEEKERS look in turn, by numbers, a MINUTE each", "one, two, three", () -> {
             s.due("one is as alone", Due.corridor("sf00;").together(3), 11);
             s.due("n, f", Due.corridor("sn05;sf00;").together(3), 3);
             s.due("f, n", Due.corridor("sf00;sn05;").together(3), -9);
             s.due("f, n, n", Due.corridor("p9;sf00;sn05;sn00;").together(27), 4);
         });
-        s.terms(words, "behind the last the first again, each from where he looked himself", () -> {
-            s.due("two", Due.garden("p9;sn08;sa16;").together(19), 43);
-            s.due("three", Due.garden("p4;sm09;sn30;sn20;").together(4), 24);
-        });
-        s.terms(words, "1 at least, for she is somewhere", () ->
+        s.terms("ALL SEEKERS look in turn, by numbers, a MINUTE each",
+            "behind the last the first again, each from where he looked himself", () -> {
+                s.due("two", Due.garden("p9;sn08;sa16;").together(19), 43);
+                s.due("three", Due.garden("p4;sm09;sn30;sn20;").together(4), 24);
+            });
+        s.terms("behind how many looks it is empty; -9.", "1 at least, for she is somewhere", () ->
             s.due("together(0)", Due.garden("se35;sa00;sm01;").together(0), 1));
-        s.terms(words, "200, not 201", () -> {
+        s.terms("behind how many looks it is empty; -9.", "200, not 201", () -> {
             s.due("200 of two", Due.garden("p7;sf08;sf11;").together(36), 200);
             s.due("201 of two", Due.garden("p7;sa24;sf27;").together(28), -9);
             s.due("200 of three", Due.garden("p7;se01;sf35;sf16;").together(29), 200);
@@ -352,10 +356,11 @@ final class SearchBounds {
     private void promise14Search() {
         seekersAndMinutes(14, "-1; -4; -6 999.", "search", t -> (x, seeker) -> x.search(seeker, t));
         lateMinutes(14, "-1; -4; -6 999.", "search", 1, t -> (x, seeker) -> x.search(seeker, t));
-        s.promise(14, "SEARCH: behind how many looks it is empty; -9.", "nothing changes by it, -9 is no refusal", () -> {
-            twins.asks(() -> Due.corridor("sn05;"), 3, "search(0, 3)", x -> x.search(0, 3));
-            twins.asks(() -> Due.garden("p1;sa05;"), -9, "search(0, 999)", x -> x.search(0, 999));
-        });
+        s.promise(14, "SEARCH: behind how many looks it is empty; -9.",
+            "nothing changes by it, -9 is no refusal", () -> {
+                twins.asks(() -> Due.corridor("sn05;"), 3, "search(0, 3)", x -> x.search(0, 3));
+                twins.asks(() -> Due.garden("p1;sa05;"), -9, "search(0, 999)", x -> x.search(0, 999));
+            });
     }
 
     private void promise15Left() {
@@ -412,12 +417,13 @@ final class SearchBounds {
             twins.refused(Twins.RICH, -4, "looksAt(0, -1, -1)", x -> x.looksAt(0, -1, -1));
             twins.refused(Twins.RICH, -6, "looksAt(0, 1000, 61)", x -> x.looksAt(0, 1000, 61));
         });
-        s.promise(16, "The SQUARE he looks at as the i-th; -9 the SET is empty.", "squares 0 and 35, -9 no refusal", () -> {
-            twins.asks(() -> Due.garden("h00;sf35;"), 0, "looksAt(0, 0, 0)", x -> x.looksAt(0, 0, 0));
-            twins.asks(() -> Due.garden("h35;sn00;"), 35, "looksAt(0, 0, 0)", x -> x.looksAt(0, 0, 0));
-            twins.asks(() -> Due.garden("h35;sn00;"), -9, "looksAt(0, 0, 1)", x -> x.looksAt(0, 0, 1));
-            twins.asks(() -> Due.garden("h35;sn00;"), -9, "looksAt(0, 0, 60)", x -> x.looksAt(0, 0, 60));
-        });
+        s.promise(16, "The SQUARE he looks at as the i-th; -9 the SET is empty.",
+            "squares 0 and 35, -9 no refusal", () -> {
+                twins.asks(() -> Due.garden("h00;sf35;"), 0, "looksAt(0, 0, 0)", x -> x.looksAt(0, 0, 0));
+                twins.asks(() -> Due.garden("h35;sn00;"), 35, "looksAt(0, 0, 0)", x -> x.looksAt(0, 0, 0));
+                twins.asks(() -> Due.garden("h35;sn00;"), -9, "looksAt(0, 0, 1)", x -> x.looksAt(0, 0, 1));
+                twins.asks(() -> Due.garden("h35;sn00;"), -9, "looksAt(0, 0, 60)", x -> x.looksAt(0, 0, 60));
+            });
     }
 
     private void promise17BestSeeker() {

@@ -192,13 +192,14 @@ final class SquareBounds {
     }
 
     private void kindsAsAbove() {
-        s.terms("Where it is not told as above them.", "a gap's STEPS are a lawn's; suns and beds she can be on", () -> {
-            HowFarShesGot x = Due.garden("kg00;ks01;kb02;w9;");
-            s.due("STEPS off a gap", x.square(0, 2), 1);
-            s.due("on a gap", x.square(0, 1), 1);
-            s.due("on a sun", x.square(1, 1), 1);
-            s.due("on a bed", x.square(2, 1), 1);
-        });
+        s.terms("Where it is not told as above them.",
+            "a gap's STEPS are a lawn's; suns and beds she can be on", () -> {
+                HowFarShesGot x = Due.garden("kg00;ks01;kb02;w9;");
+                s.due("STEPS off a gap", x.square(0, 2), 1);
+                s.due("on a gap", x.square(0, 1), 1);
+                s.due("on a sun", x.square(1, 1), 1);
+                s.due("on a bed", x.square(2, 1), 1);
+            });
         s.terms("Where it is not told as above them.", "suns, beds and roads are not SHUT as gaps are", () ->
             s.due("shut()", Due.corridor("ks01;kb02;kr03;").shut(), -9));
     }
@@ -428,15 +429,16 @@ final class SquareBounds {
     }
 
     private void promise6Set() {
-        s.promise(6, "HOME (what 0), PACE (1), WARM (2) becomes v: what it was.", "least and greatest of each", () -> {
-            HowFarShesGot x = new HowFarShesGot();
-            int[][] calls = {{0, 0, 14}, {0, 35, 0}, {0, 35, 35}, {1, 1, 2}, {1, 9, 1}, {1, 9, 9}, {2, 0, 5},
-                {2, 9, 0}, {2, 9, 9}};
-            for (int[] call : calls) {
-                s.due("set(" + call[0] + ", " + call[1] + ")", x.set(call[0], call[1]), call[2]);
-                s.due("count(" + call[0] + ")", x.count(call[0]), call[1]);
-            }
-        });
+        s.promise(6, "HOME (what 0), PACE (1), WARM (2) becomes v: what it was.",
+            "least and greatest of each", () -> {
+                HowFarShesGot x = new HowFarShesGot();
+                int[][] calls = {{0, 0, 14}, {0, 35, 0}, {0, 35, 35}, {1, 1, 2}, {1, 9, 1}, {1, 9, 9}, {2, 0, 5},
+                    {2, 9, 0}, {2, 9, 9}};
+                for (int[] call : calls) {
+                    s.due("set(" + call[0] + ", " + call[1] + ")", x.set(call[0], call[1]), call[2]);
+                    s.due("count(" + call[0] + ")", x.count(call[0]), call[1]);
+                }
+            });
         s.promise(6, "HOME (what 0), PACE (1), WARM (2) becomes v: what it was.", "the two others stay", () -> {
             for (int what = 0; what < 3; what++) {
                 HowFarShesGot x = new HowFarShesGot();
@@ -514,17 +516,18 @@ final class SquareBounds {
     }
 
     private void promise8Stand() {
-        s.promise(8, "He stands on a SQUARE: where he stood.", "on 0, on 35, on a hedge, where he stood already", () -> {
-            HowFarShesGot x = Due.garden("kh07;sf03;sn04;se05;");
-            s.due("stand(2, 35)", x.stand(2, 35), 5);
-            s.due("stand(2, 0)", x.stand(2, 0), 35);
-            s.due("stand(2, 7)", x.stand(2, 7), 0);
-            s.due("stand(2, 7) again", x.stand(2, 7), 7);
-            s.due("he stands there", x.seeker(2, 1), 7);
-            s.due("he is of the kind he was", x.seeker(2, 0), 3);
-            s.due("0 stays", x.seeker(0, 1), 3);
-            s.due("1 stays", x.seeker(1, 1), 4);
-        });
+        s.promise(8, "He stands on a SQUARE: where he stood.",
+            "on 0, on 35, on a hedge, where he stood already", () -> {
+                HowFarShesGot x = Due.garden("kh07;sf03;sn04;se05;");
+                s.due("stand(2, 35)", x.stand(2, 35), 5);
+                s.due("stand(2, 0)", x.stand(2, 0), 35);
+                s.due("stand(2, 7)", x.stand(2, 7), 0);
+                s.due("stand(2, 7) again", x.stand(2, 7), 7);
+                s.due("he stands there", x.seeker(2, 1), 7);
+                s.due("he is of the kind he was", x.seeker(2, 0), 3);
+                s.due("0 stays", x.seeker(0, 1), 3);
+                s.due("1 stays", x.seeker(1, 1), 4);
+            });
         s.promise(8, "-1 either.", "no such seeker", () -> {
             for (int seeker : new int[] {LEAST, -1, 3, GREATEST}) {
                 twins.refused(-1, "stand(" + seeker + ", 0)", x -> x.stand(seeker, 0));

@@ -247,12 +247,13 @@ final class TellingBounds {
             s.tells("kh14;h00;", -2000);
             s.tells("p0;p1;", -2000);
         });
-        s.terms("that, behind all ahead of it in the text, is not as it must be", "what was there before counts", () -> {
-            s.due("HOME on a hedge", Due.tell(Due.garden("kh00;"), "h00;"), -2000);
-            s.due("a hedge on HOME", Due.tell(Due.garden("h00;"), "kh00;"), -2000);
-            s.due("a hedge where HOME was", Due.tell(Due.garden("h00;"), "kh14;"), 1);
-            s.due("a seeker more", Due.tell(Due.garden("sf00;sf00;"), "sf00;sf00;"), -2005);
-        });
+        s.terms("that, behind all ahead of it in the text, is not as it must be",
+            "what was there before counts", () -> {
+                s.due("HOME on a hedge", Due.tell(Due.garden("kh00;"), "h00;"), -2000);
+                s.due("a hedge on HOME", Due.tell(Due.garden("h00;"), "kh00;"), -2000);
+                s.due("a hedge where HOME was", Due.tell(Due.garden("h00;"), "kh14;"), 1);
+                s.due("a seeker more", Due.tell(Due.garden("sf00;sf00;"), "sf00;sf00;"), -2005);
+            });
         s.terms("(a number out of range", "SQUARES 36 to 99, PACE 0", () -> {
             for (int square = 36; square < 100; square++) {
                 for (String form : List.of("kl", "h", "sa", "vl00", "vl35", "vl36")) {
@@ -358,12 +359,13 @@ final class TellingBounds {
                 s.due("count(8)", x.count(8), i);
             }
         });
-        s.promise(2, "A letter (0 .. 255) comes: how many there are.", "behind a garden from the 1st on again", () -> {
-            HowFarShesGot x = Due.garden("p1;");
-            s.due("letter", x.letter('k'), 1);
-            Due.tell(x, "x");
-            s.due("letter behind a FAULT", x.letter('k'), 1);
-        });
+        s.promise(2, "A letter (0 .. 255) comes: how many there are.",
+            "behind a garden from the 1st on again", () -> {
+                HowFarShesGot x = Due.garden("p1;");
+                s.due("letter", x.letter('k'), 1);
+                Due.tell(x, "x");
+                s.due("letter behind a FAULT", x.letter('k'), 1);
+            });
         s.promise(2, "-4;", "-1", () -> {
             twins.refused(-4, "letter(-1)", x -> x.letter(-1));
             twins.refused(-4, "letter(least)", x -> x.letter(LEAST));
@@ -382,15 +384,16 @@ final class TellingBounds {
     }
 
     private void promise3Garden() {
-        s.promise(3, "The letters become a GARDEN, and are no more (with a FAULT neither)", "none wait behind", () -> {
-            for (String text : List.of("p1;", LONG + "p1;", "", "x", "p0;", LONG + "kh0")) {
-                HowFarShesGot x = Due.letters(new HowFarShesGot(), text);
-                s.due("letters of " + text, x.count(8), text.length());
-                x.garden();
-                s.due("letters behind " + text, x.count(8), 0);
-                s.due("a garden of none", x.garden(), -1000);
-            }
-        });
+        s.promise(3, "The letters become a GARDEN, and are no more (with a FAULT neither)",
+            "none wait behind", () -> {
+                for (String text : List.of("p1;", LONG + "p1;", "", "x", "p0;", LONG + "kh0")) {
+                    HowFarShesGot x = Due.letters(new HowFarShesGot(), text);
+                    s.due("letters of " + text, x.count(8), text.length());
+                    x.garden();
+                    s.due("letters behind " + text, x.count(8), 0);
+                    s.due("a garden of none", x.garden(), -1000);
+                }
+            });
         s.promise(3, "The letters become a GARDEN, and are no more (with a FAULT neither)", "what was there stays",
             () -> {
                 HowFarShesGot x = Due.garden("kh00;sf00;h20;p9;w9;");
@@ -402,17 +405,18 @@ final class TellingBounds {
                 s.due("WARM", x.count(2), 9);
                 s.due("SEEKERS", x.count(3), 1);
             });
-        s.promise(3, "The letters become a GARDEN, and are no more (with a FAULT neither)", "ROW and IMAGE stay", () -> {
-            HowFarShesGot x = Due.row(Due.garden("h20;"), 5, 6);
-            x.image();
-            for (String text : List.of("h21;kr00;", "h22;x", "h22;p0;")) {
-                Due.tell(x, text);
-                s.due("in the ROW behind " + text, x.count(7), 2);
-                s.due("HOME behind " + text, x.count(0), 21);
-            }
-            s.due("on()", x.on(), 20);
-            s.due("roads", x.count(6), 0);
-        });
+        s.promise(3, "The letters become a GARDEN, and are no more (with a FAULT neither)",
+            "ROW and IMAGE stay", () -> {
+                HowFarShesGot x = Due.row(Due.garden("h20;"), 5, 6);
+                x.image();
+                for (String text : List.of("h21;kr00;", "h22;x", "h22;p0;")) {
+                    Due.tell(x, text);
+                    s.due("in the ROW behind " + text, x.count(7), 2);
+                    s.due("HOME behind " + text, x.count(0), 21);
+                }
+                s.due("on()", x.on(), 20);
+                s.due("roads", x.count(6), 0);
+            });
         s.promise(3, "how many STATEMENTS", "from 1 to 32", () -> {
             for (int many = 1; many <= 32; many++) {
                 s.tells("p1;".repeat(many), many);

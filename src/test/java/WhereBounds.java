@@ -53,7 +53,7 @@ final class WhereBounds {
             s.due("14 squares", x.steps(24), 56);
             s.due("20 squares", x.steps(35), 80);
         });
-        s.terms("MINUTES: STEPS times PACE.", "more than 999 minutes can not be, but 9 times 80", () -> {
+        s.terms("MINUTES: STEPS times PACE.", "from 80 STEPS of 1 MINUTE to 80 of 9", () -> {
             HowFarShesGot x = Due.garden("w9;h00;vs0035;vh0610;vh1923;vh3034;kr35;");
             for (int pace = 1; pace <= 9; pace++) {
                 x.set(1, pace);
@@ -72,19 +72,20 @@ final class WhereBounds {
             s.due("mayBe(1000, -1)", x.mayBe(1000, -1), -6);
             s.due("mayBe(-1, -1)", x.mayBe(-1, -1), -4);
         });
-        s.terms("SQUARES to which STEPS from HOME are no more than t by PACE, cut.", "the minute before, and then", () -> {
-            for (int pace = 1; pace <= 9; pace++) {
-                HowFarShesGot x = Due.corridor("w9;ks01;kb03;p" + pace + ";");
-                int[] steps = {0, 1, 5, 6, 8, 9};
-                for (int square = 1; square < 6; square++) {
-                    int t = steps[square] * pace;
-                    s.due(square + " before " + t, x.mayBe(t - 1, square), 0);
-                    s.due(square + " at " + t, x.mayBe(t, square), 1);
-                    s.due("how many before " + t, x.mayBe(t - 1, -1), square);
-                    s.due("how many at " + t, x.mayBe(t, -1), square + 1);
+        s.terms("SQUARES to which STEPS from HOME are no more than t by PACE, cut.",
+            "the minute before, and then", () -> {
+                for (int pace = 1; pace <= 9; pace++) {
+                    HowFarShesGot x = Due.corridor("w9;ks01;kb03;p" + pace + ";");
+                    int[] steps = {0, 1, 5, 6, 8, 9};
+                    for (int square = 1; square < 6; square++) {
+                        int t = steps[square] * pace;
+                        s.due(square + " before " + t, x.mayBe(t - 1, square), 0);
+                        s.due(square + " at " + t, x.mayBe(t, square), 1);
+                        s.due("how many before " + t, x.mayBe(t - 1, -1), square);
+                        s.due("how many at " + t, x.mayBe(t, -1), square + 1);
+                    }
                 }
-            }
-        });
+            });
         s.terms("MAY BE at t: how many; whether a SQUARE is in it.", "one by one they are as many", () -> {
             HowFarShesGot x = Due.garden("kh15;kr20;");
             for (int t = 0; t < 8; t++) {
@@ -123,29 +124,30 @@ final class WhereBounds {
             s.due("off a road that is HOME", Due.garden("kr14;").steps(15), -9);
             s.due("on a road that is HOME", Due.garden("kr14;").steps(14), 0);
         });
-        String words = "OUT: in how many MINUTES she can be on a ROAD; -9; on which, of several the least.";
-        s.terms(words, "no road, none that she can come to, one that is HOME", () -> {
-            s.due("no road", Due.corridor("").out(0), -9);
-            s.due("on which", Due.corridor("").out(1), -9);
-            s.due("behind hedges", Due.corridor("kr35;").out(0), -9);
-            s.due("on which behind hedges", Due.corridor("kr35;").out(1), -9);
-            s.due("HOME", Due.corridor("kr00;kr01;").out(0), 0);
-            s.due("on which HOME", Due.corridor("h01;kr00;kr01;").out(1), 1);
-        });
-        s.terms(words, "of several that are as soon the least; of others the soonest", () -> {
-            HowFarShesGot x = Due.garden("kr08;kr13;kr15;kr20;");
-            s.due("four", x.out(1), 8);
-            x.turnTo(8, 0);
-            s.due("three", x.out(1), 13);
-            x.turnTo(13, 0);
-            s.due("two", x.out(1), 15);
-            x.turnTo(15, 0);
-            s.due("one", x.out(1), 20);
-            x.turnTo(0, 5);
-            s.due("a later one is less", x.out(1), 20);
-            s.due("minutes", x.out(0), 2);
-        });
-        s.terms(words, "0 and 35 can be it", () -> {
+        s.terms("OUT: in how many MINUTES she can be on a ROAD; -9;",
+            "no road, none that she can come to, one that is HOME", () -> {
+                s.due("no road", Due.corridor("").out(0), -9);
+                s.due("on which", Due.corridor("").out(1), -9);
+                s.due("behind hedges", Due.corridor("kr35;").out(0), -9);
+                s.due("on which behind hedges", Due.corridor("kr35;").out(1), -9);
+                s.due("HOME", Due.corridor("kr00;kr01;").out(0), 0);
+                s.due("on which HOME", Due.corridor("h01;kr00;kr01;").out(1), 1);
+            });
+        s.terms("on which, of several the least.",
+            "of several that are as soon the least; of others the soonest", () -> {
+                HowFarShesGot x = Due.garden("kr08;kr13;kr15;kr20;");
+                s.due("four", x.out(1), 8);
+                x.turnTo(8, 0);
+                s.due("three", x.out(1), 13);
+                x.turnTo(13, 0);
+                s.due("two", x.out(1), 15);
+                x.turnTo(15, 0);
+                s.due("one", x.out(1), 20);
+                x.turnTo(0, 5);
+                s.due("a later one is less", x.out(1), 20);
+                s.due("minutes", x.out(0), 2);
+            });
+        s.terms("on which, of several the least.", "0 and 35 can be it", () -> {
             s.due("0", Due.garden("kr00;").out(1), 0);
             s.due("35", Due.garden("kr35;").out(1), 35);
         });
