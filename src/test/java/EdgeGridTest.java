@@ -53,21 +53,18 @@ public final class EdgeGridTest {
         calls(STEPS, SEED, NOTHING, "lots");
     }
 
-    private final HowFarShesGot x = new HowFarShesGot();
-    private final PlainModel y = new PlainModel();
-    private final StringBuilder log = new StringBuilder();
-    private int calls;
+    private final Both both = new Both();
 
     private EdgeGridTest(int state) {
         if (state > 0) {
             tell(GARDEN);
-            both("image", 0, 0, 0);
+            both.hear("image", 0, 0, 0);
             tell(state > 1 ? MORE + "sa34;" : MORE);
             int[] row = {8, 3, 20, 9, 9, 12, 7, 20, 14, 33, 22, 34};
             for (int i = 0; i < (state > 1 ? row.length : 4); i++) {
-                both("row", row[i], 0, 0);
+                both.hear("row", row[i], 0, 0);
             }
-            letters(state > 1 ? "kb06;h21;" + "p1;".repeat(29) : "kb06;");
+            both.hearLetters(state > 1 ? "kb06;h21;" + "p1;".repeat(29) : "kb06;");
         }
     }
 
@@ -94,8 +91,8 @@ public final class EdgeGridTest {
             for (int b : arguments.get(1)) {
                 for (int c : arguments.get(2)) {
                     asked++;
-                    test.both(name, a, b, c);
-                    if (test.changedBy(name) || test.calls > LAST_CALL - 60) {
+                    test.both.hear(name, a, b, c);
+                    if (test.changedBy(name) || test.both.calls() > LAST_CALL - 60) {
                         test.lookAtAll();
                         test = new EdgeGridTest(state);
                     }
@@ -111,38 +108,19 @@ public final class EdgeGridTest {
     }
 
     private void tell(String text) {
-        letters(text);
-        both("garden", 0, 0, 0);
-    }
-
-    private void letters(String text) {
-        for (int i = 0; i < text.length(); i++) {
-            both("letter", text.charAt(i), 0, 0);
-        }
+        both.hearLetters(text);
+        both.hear("garden", 0, 0, 0);
     }
 
     private void lookAtAll() {
         for (int what = 0; what <= 16; what++) {
-            both("count", what, 0, 0);
+            both.hear("count", what, 0, 0);
         }
         for (int square = 0; square < 36; square++) {
-            both("square", square, 0, 0);
+            both.hear("square", square, 0, 0);
         }
         for (int seeker = 0; seeker < 3; seeker++) {
-            both("seeker", seeker, 1, 0);
-        }
-    }
-
-    private void both(String name, int a, int b, int c) {
-        calls++;
-        log.append(name).append(' ').append(a).append(' ').append(b).append(' ').append(c);
-        long due = Calls.model(y, name, a, b, c);
-        long got = Calls.program(x, name, a, b, c);
-        log.append(" = ").append(due).append('\n');
-        if (got != due) {
-            System.out.println(log);
-            System.out.println("the last answer was " + got + ", the plain model's is " + due);
-            System.exit(1);
+            both.hear("seeker", seeker, 1, 0);
         }
     }
 }

@@ -16,10 +16,7 @@ public final class PlainModelTest {
         "on", "count"};
 
     private final Random random;
-    private final HowFarShesGot x = new HowFarShesGot();
-    private final PlainModel y = new PlainModel();
-    private final StringBuilder log = new StringBuilder();
-    private int calls;
+    private final Both both = new Both();
 
     private PlainModelTest(long seed) {
         random = new Random(seed);
@@ -29,7 +26,7 @@ public final class PlainModelTest {
         for (int run = 0; run < RUNS; run++) {
             PlainModelTest test = new PlainModelTest(run);
             test.tellGarden(false);
-            while (test.calls < CALLS) {
+            while (test.both.calls() < CALLS) {
                 test.go();
             }
         }
@@ -151,18 +148,8 @@ public final class PlainModelTest {
     }
 
     private void call(String name, int a, int b, int c) {
-        if (calls == CALLS) {
-            return;
-        }
-        calls++;
-        log.append(name).append(' ').append(a).append(' ').append(b).append(' ').append(c);
-        long due = Calls.model(y, name, a, b, c);
-        long got = Calls.program(x, name, a, b, c);
-        log.append(" = ").append(due).append('\n');
-        if (got != due) {
-            System.out.println(log);
-            System.out.println("the last answer was " + got + ", the plain model's is " + due);
-            System.exit(1);
+        if (both.calls() < CALLS) {
+            both.hear(name, a, b, c);
         }
     }
 }
